@@ -1,0 +1,200 @@
+/** What a step fails with -2 for, and what is put always. */
+public final class LimitsTest {
+    private static final int NONE = Steps.NONE;
+    private static final int FULL = 9998;
+
+    public static void main(String[] args) {
+        Check check = new Check("LimitsTest");
+        promises(check);
+        tasks(check);
+        microtasks(check);
+        jobsAreAlwaysPut(check);
+        timers(check);
+        cancelledTimersMakeRoom(check);
+        manyTasksOfCancelledTimers(check);
+        check.end();
+    }
+
+    private static void sixSteps(PromiseLoop loop, int f, int code, int a, int b) {
+        loop.clear(f);
+        for (int i = 0; i < 6; i++) {
+            loop.step(f, code, a, b);
+        }
+    }
+
+    private static void promises(Check check) {
+        PromiseLoop loop = new PromiseLoop();
+        sixSteps(loop, 0, Steps.MAKE, 0, 0);
+        for (int i = 0; i < 6; i++) {
+            Steps.runOnce(loop, 0, 0);
+        }
+        Steps.define(loop, 0, Steps.MAKE, 1, 0, Steps.THEN, 1, Steps.on(9, 9), Steps.MAKE, 2, 0,
+                Steps.MAKE, 3, 0, Steps.MAKE, 4, 0, Steps.NOTE, 1, 0);
+        Steps.runOnce(loop, 0, 0);
+        check.same("promises", loop.count(0), 40);
+        check.same("the last", loop.register(3), 39);
+        check.same("none", loop.register(4), -1);
+        check.reports("the 41st", loop, FULL);
+        check.log("ended the run", loop);
+        Steps.define(loop, 0, Steps.THEN, 7, Steps.on(9, 9), Steps.NOTE, 2, 0,
+                Steps.THEN, 3, Steps.on(9, 9), Steps.NOTE, 3, 0);
+        Steps.runOnce(loop, 0, 0);
+        check.log("THEN of an empty register makes none", loop, 2);
+        check.reports("THEN of another would", loop, FULL, FULL);
+        check.same("and puts no reaction", loop.state(39), 0);
+        check.same("its register is as it was", loop.register(3), 39);
+    }
+
+    private static void tasks(Check check) {
+        PromiseLoop loop = new PromiseLoop();
+        Steps.define(loop, 0, Steps.POST, 1, 2, Steps.NOTE, 1, 0, Steps.POST, 1, 0,
+                Steps.NOTE, 2, 0);
+        loop.post(0, 0, 0);
+        for (int i = 0; i < 39; i++) {
+            loop.post(1, 1, 0);
+        }
+        loop.turn();
+        check.same("tasks", loop.count(1), 40);
+        check.log("one was put", loop, 1);
+        check.reports("the other was not", loop, FULL);
+    }
+
+    private static void microtasks(Check check) {
+        PromiseLoop loop = new PromiseLoop();
+        sixSteps(loop, 1, Steps.MICRO, 9, 0);
+        sixSteps(loop, 2, Steps.CALL, 1, 0);
+        Steps.define(loop, 0, Steps.CALL, 2, 0, Steps.CALL, 3, 0, Steps.NOTE, 1, 0,
+                Steps.MICRO, 9, 0, Steps.NOTE, 2, 0);
+        Steps.define(loop, 3, Steps.CALL, 1, 0, Steps.CALL, 1, 0, Steps.CALL, 1, 0,
+                Steps.CALL, 1, 0);
+        check.same("cut", Steps.runOnce(loop, 0, 0), 50);
+        check.log("60 microtasks", loop, 1);
+        check.reports("the 61st", loop, FULL);
+        check.same("left", loop.count(2), 11);
+        check.same("the rest", loop.turn(), 11);
+    }
+
+    private static void jobsAreAlwaysPut(Check check) {
+        PromiseLoop loop = new PromiseLoop();
+        Steps.define(loop, 4, Steps.MAKE, 0, 0, Steps.MAKE, 1, 0, Steps.COPY, 2, 0,
+                Steps.THEN, 2, Steps.on(NONE, NONE));
+        Steps.runOnce(loop, 4, 0);
+        sixSteps(loop, 1, Steps.MICRO, 9, 0);
+        sixSteps(loop, 2, Steps.CALL, 1, 0);
+        Steps.define(loop, 3, Steps.CALL, 1, 0, Steps.CALL, 1, 0, Steps.CALL, 1, 0,
+                Steps.CALL, 1, 0, Steps.SETTLE, 0, 0, Steps.FOLLOW, 1, 0);
+        Steps.define(loop, 0, Steps.CALL, 2, 0, Steps.CALL, 3, 0, Steps.NOTE, 1, 0);
+        Steps.runOnce(loop, 0, 7);
+        check.log("no failure", loop, 1);
+        check.same("11 microtasks and two jobs are left", loop.count(2), 13);
+        loop.turn();
+        check.same("settled by a job", loop.state(2), 5);
+        check.same("settled by jobs", loop.state(1), 5);
+        jobsCountForMicrotasks(check);
+    }
+
+    private static void jobsCountForMicrotasks(Check check) {
+        PromiseLoop loop = new PromiseLoop();
+        sixSteps(loop, 1, Steps.MICRO, 9, 0);
+        sixSteps(loop, 2, Steps.CALL, 1, 0);
+        Steps.define(loop, 3, Steps.CALL, 1, 0, Steps.CALL, 1, 0, Steps.CALL, 1, 0,
+                Steps.CALL, 4, 0, Steps.MICRO, 9, 0);
+        Steps.define(loop, 4, Steps.MICRO, 9, 0, Steps.MICRO, 9, 0, Steps.MICRO, 9, 0,
+                Steps.MICRO, 9, 0, Steps.MICRO, 9, 0);
+        Steps.define(loop, 0, Steps.MAKE, 0, 0, Steps.MAKE, 1, 0, Steps.FOLLOW, 0, 1,
+                Steps.CALL, 2, 0, Steps.CALL, 3, 0, Steps.NOTE, 1, 0);
+        Steps.runOnce(loop, 0, 0);
+        check.log("a job and 60 microtasks would be 61", loop);
+        check.reports("so the last fails", loop, FULL);
+    }
+
+    private static void timers(Check check) {
+        PromiseLoop loop = new PromiseLoop();
+        sixSteps(loop, 0, Steps.WAIT, 1, 9);
+        sixSteps(loop, 2, Steps.EVERY, 1, 9);
+        Steps.define(loop, 1, Steps.WAIT, 3, 5, Steps.NOTE, 1, 0, Steps.EVERY, 3, 5);
+        Steps.runOnce(loop, 0, 0);
+        Steps.runOnce(loop, 2, 0);
+        check.same("timers", loop.count(3), 12);
+        check.reports("are not too many", loop);
+        Steps.runOnce(loop, 0, 0);
+        Steps.runOnce(loop, 2, 0);
+        check.reports("the 13th", loop, FULL, FULL);
+        check.same("no number was used", loop.due(13), -1);
+        loop.advance(9);
+        Steps.runOnce(loop, 0, 0);
+        check.reports("those whose tasks wait are there", loop, FULL, FULL, FULL);
+        loop.turn();
+        check.log("in its own run, a timer that does not repeat is not", loop, 1);
+        check.same("so it made number 13", loop.due(13), 14);
+        check.reports("and one only", loop, FULL, FULL, FULL, FULL);
+    }
+
+    private static void cancelledTimersMakeRoom(Check check) {
+        PromiseLoop loop = new PromiseLoop();
+        sixSteps(loop, 0, Steps.WAIT, 1, 9);
+        Steps.runOnce(loop, 0, 0);
+        Steps.runOnce(loop, 0, 0);
+        Steps.define(loop, 2, Steps.CANCEL, 12, 0, Steps.CANCEL, 1, 0, Steps.CANCEL, 99, 0,
+                Steps.EVERY, 1, 2, Steps.EVERY, 1, 2, Steps.EVERY, 1, 2);
+        Steps.runOnce(loop, 2, 0);
+        check.same("timers", loop.count(3), 12);
+        check.reports("two found room", loop, FULL);
+        check.same("due(14)", loop.due(14), 2);
+        check.same("due(15)", loop.due(15), -1);
+        cancelledInItsRun(check);
+    }
+
+    private static void cancelledInItsRun(Check check) {
+        PromiseLoop loop = new PromiseLoop();
+        Steps.define(loop, 0, Steps.EVERY, 1, 5);
+        Steps.define(loop, 1, Steps.CANCEL, 1, 0, Steps.WAIT, 2, 7, Steps.FAIL, 4, 0);
+        Steps.runOnce(loop, 0, 0);
+        loop.advance(5);
+        loop.turn();
+        check.same("a repeating timer that cancels itself", loop.due(1), -1);
+        check.same("is not what took its place", loop.due(2), 12);
+        check.same("timers", loop.count(3), 1);
+        failedInItsRun(check);
+    }
+
+    private static void failedInItsRun(Check check) {
+        PromiseLoop loop = new PromiseLoop();
+        Steps.define(loop, 0, Steps.EVERY, 1, 5);
+        Steps.define(loop, 1, Steps.FAIL, 4, 0);
+        Steps.runOnce(loop, 0, 0);
+        loop.advance(5);
+        loop.turn();
+        check.reports("a repeating timer that fails", loop, 10004);
+        check.same("repeats even so", loop.due(1), 10);
+    }
+
+    /** Tasks of cancelled timers go on waiting, far above the 40 that a step may put. */
+    private static void manyTasksOfCancelledTimers(Check check) {
+        PromiseLoop loop = new PromiseLoop();
+        Steps.define(loop, 0, Steps.FRAME, 0, 0, Steps.CALL, 1, 0, Steps.CALL, 2, 0);
+        sixSteps(loop, 2, Steps.WAIT, 9, 1);
+        Steps.define(loop, 9, Steps.NOTE, 9, 0);
+        Steps.runOnce(loop, 0, 0);
+        int rounds = 30;
+        for (int round = 0; round < rounds; round++) {
+            loop.clear(1);
+            for (int i = 1; i <= 6; i++) {
+                loop.step(1, Steps.CANCEL, 6 * round + i, 0);
+            }
+            loop.advance(16);
+            loop.turn();
+        }
+        loop.clear(0);
+        loop.advance(16);
+        int waiting = 6 * (rounds + 1) - rounds;
+        check.same("six tasks more a round, one done", loop.count(1), waiting);
+        check.illegalState("post", () -> loop.post(0, 9, 0));
+        check.log("the first timer was run before its frame", loop, 9);
+        for (int i = 0; i < waiting; i++) {
+            loop.turn();
+        }
+        check.same("all tasks were done", loop.count(1), 0);
+        check.log("of timers that were there, the last six", loop, 9, 9, 9, 9, 9, 9, 9);
+    }
+}
