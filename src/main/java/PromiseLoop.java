@@ -835,14 +835,10 @@ public final class PromiseLoop {
         }
 
         private void start(int place, int level, int now) {
+            int least = level > LAST_FREE_LEVEL ? LEAST_NESTED_DELAY : LEAST_DELAY;
             levels[place] = level;
             waits[place] = false;
-            dues[place] = now + counted(delays[place], level);
-        }
-
-        private static int counted(int delay, int level) {
-            int least = level > LAST_FREE_LEVEL ? LEAST_NESTED_DELAY : LEAST_DELAY;
-            return Math.max(delay, least);
+            dues[place] = now + (delays[place] < least ? least : delays[place]);
         }
 
         private int nextDue(int now) {

@@ -40,7 +40,8 @@ final class Check {
             got = e.getClass().getSimpleName();
         }
         wrong++;
-        System.out.println(name + ": " + what + " threw " + got + ", due is " + due.getSimpleName());
+        System.out.println(
+                name + ": " + what + " threw " + got + ", due is " + due.getSimpleName());
     }
 
     /** All that was logged, in its order. */

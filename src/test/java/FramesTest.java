@@ -1,3 +1,5 @@
+import java.util.Arrays;
+
 /** Promises 6, 7 and 11 for frames: when they are due, what they take, and what stays. */
 public final class FramesTest {
     public static void main(String[] args) {
@@ -7,6 +9,8 @@ public final class FramesTest {
         dueUntilATurn(check);
         cutAmongFrames(check);
         cutBehindTheLast(check);
+        cutBeforeThem(check);
+        manyFrames(check);
         atMostEight(check);
         takenOnesCount(check);
         check.end();
@@ -93,6 +97,33 @@ public final class FramesTest {
         check.same("what was asked for waits", loop.count(4), 1);
     }
 
+    private static void cutBeforeThem(Check check) {
+        PromiseLoop loop = withOneAskedFor();
+        Steps.define(loop, 0, Steps.MICRO, 0, 0);
+        loop.advance(16);
+        check.same("the task and 49 microtasks", Steps.runOnce(loop, 0, 0), 50);
+        check.log("the frame was not reached", loop);
+        loop.clear(0);
+        check.same("the microtask and the frame", loop.turn(), 2);
+        check.log("frames were due still", loop, 16);
+    }
+
+    private static void manyFrames(Check check) {
+        PromiseLoop loop = new PromiseLoop();
+        Steps.define(loop, 0, Steps.FRAME, 1, 0, Steps.FRAME, 2, 0, Steps.FRAME, 3, 0);
+        Steps.define(loop, 1, Steps.NOTE, 1, 0);
+        Steps.define(loop, 2, Steps.NOTE, 2, 0);
+        Steps.define(loop, 3, Steps.NOTE, 3, 0);
+        for (int i = 0; i < 12; i++) {
+            Steps.runOnce(loop, 0, 0);
+            loop.advance(16);
+            loop.turn();
+        }
+        for (int i = 0; i < 36; i++) {
+            check.same("logged(" + i + ")", loop.logged(i), 1 + i % 3);
+        }
+    }
+
     private static void askForSix(PromiseLoop loop, int f, int asked) {
         loop.clear(f);
         for (int i = 0; i < 6; i++) {
@@ -122,7 +153,7 @@ public final class FramesTest {
         loop.advance(16);
         check.same("eight functions", loop.turn(), 8);
         int[] due = new int[9];
-        java.util.Arrays.fill(due, 9998);
+        Arrays.fill(due, 9998);
         check.reports("each asks for one, and for one too many", loop, due);
         check.same("asked for", loop.count(4), 8);
     }

@@ -7,6 +7,7 @@ public final class PostTest {
         fullQueue(check);
         timerTasksCount(check);
         arguments(check);
+        manyTasks(check);
         check.end();
     }
 
@@ -78,5 +79,20 @@ public final class PostTest {
         Steps.runOnce(loop, 0, Integer.MIN_VALUE);
         check.log("any x", loop, Integer.MAX_VALUE, Integer.MIN_VALUE);
         check.reports("any x", loop, Integer.MAX_VALUE + 10000, Integer.MIN_VALUE + 10000);
+    }
+
+    /** Longer than any line of tasks is, so that each place is used again. */
+    private static void manyTasks(Check check) {
+        PromiseLoop loop = new PromiseLoop();
+        Steps.define(loop, 0, Steps.NOTE, 0, 1);
+        for (int i = 0; i < 100; i++) {
+            loop.post(i % 2 * 2, 0, i);
+            loop.post(i % 2 * 2, 0, i);
+            loop.turn();
+            loop.turn();
+        }
+        for (int i = 0; i < 200; i++) {
+            check.same("logged(" + i + ")", loop.logged(i), i / 2);
+        }
     }
 }

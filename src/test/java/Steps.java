@@ -1,4 +1,4 @@
-/** Short ways to give a loop its functions and its tasks, with the document's names for the codes. */
+/** Short ways to give a loop its functions and tasks, with the document's names for the codes. */
 final class Steps {
     static final int NOTE = 0;
     static final int POST = 1;

@@ -74,6 +74,11 @@ public final class TurnTest {
      */
     private static PromiseLoop withFiftyToBegin() {
         PromiseLoop loop = new PromiseLoop();
+        leaveFiftyToBegin(loop);
+        return loop;
+    }
+
+    private static void leaveFiftyToBegin(PromiseLoop loop) {
         Steps.define(loop, 9, Steps.MICRO, 9, 0);
         Steps.runOnce(loop, 9, 3);
         Steps.define(loop, 9, Steps.CALL, 7, 0, Steps.MICRO, 8, 0);
@@ -81,21 +86,15 @@ public final class TurnTest {
             loop.step(7, Steps.MICRO, 8, 0);
             loop.step(8, Steps.MICRO, 6, 0);
         }
-        return loop;
     }
 
     /** Like it, with timers 1 and 2 whose tasks wait; both are for function 0. */
     private static PromiseLoop withFiftyAndTimers() {
         PromiseLoop loop = new PromiseLoop();
-        Steps.define(loop, 9, Steps.WAIT, 0, 1, Steps.EVERY, 0, 1, Steps.MICRO, 1, 0);
-        Steps.define(loop, 1, Steps.MICRO, 1, 0);
+        Steps.define(loop, 9, Steps.WAIT, 0, 1, Steps.EVERY, 0, 1);
         Steps.runOnce(loop, 9, 3);
+        leaveFiftyToBegin(loop);
         loop.advance(1);
-        Steps.define(loop, 1, Steps.CALL, 7, 0, Steps.MICRO, 8, 0);
-        for (int i = 0; i < 6; i++) {
-            loop.step(7, Steps.MICRO, 8, 0);
-            loop.step(8, Steps.MICRO, 6, 0);
-        }
         return loop;
     }
 
@@ -135,12 +134,7 @@ public final class TurnTest {
 
     private static void jobsWithoutFunctionsBeginNothing(Check check) {
         PromiseLoop loop = withFiftyToBegin();
-        loop.clear(6);
         Steps.define(loop, 6, Steps.SETTLE, 0, 0);
-        loop.clear(8);
-        for (int i = 0; i < 6; i++) {
-            loop.step(8, Steps.MICRO, 6, 0);
-        }
         Steps.define(loop, 9, Steps.CALL, 7, 0, Steps.MICRO, 8, 0, Steps.MAKE, 0, 0,
                 Steps.COPY, 1, 0, Steps.THEN, 1, Steps.on(NONE, 5));
         check.same("50 microtasks", loop.turn(), 50);
