@@ -14,6 +14,8 @@ public final class AdvanceTest {
         ordersTasks(check);
         runsNothing(check);
         putsOneTaskOnly(check);
+        refusedOnesSetNothing(check);
+        dueBetweenAndAtTheEnds(check);
         check.end();
     }
 
@@ -57,5 +59,36 @@ public final class AdvanceTest {
         check.same("a repeating timer waits with one task", loop.count(1), 1);
         loop.turn();
         check.same("and is due from when it was run", loop.due(1), 202);
+    }
+
+    private static void refusedOnesSetNothing(Check check) {
+        PromiseLoop loop = new PromiseLoop();
+        Steps.define(loop, 0, Steps.WAIT, 1, 1, Steps.FRAME, 1, 0);
+        loop.advance(15);
+        Steps.runOnce(loop, 0, 0);
+        int[] wrong = {0, -1, 101, Integer.MIN_VALUE, Integer.MAX_VALUE};
+        for (int n : wrong) {
+            check.illegalArgument("advance(" + n + ")", () -> loop.advance(n));
+        }
+        check.same("the time", loop.time(), 15);
+        check.same("no timer is reached", loop.due(1), 16);
+        check.same("no task is put", loop.count(1), 0);
+        check.same("no frame is due", loop.turn(), 0);
+        check.same("what was asked for waits", loop.count(4), 1);
+        loop.advance(1);
+        check.same("the timer and the frame", loop.turn(), 2);
+    }
+
+    /** The time before is not among those that the clock reaches, the time then is. */
+    private static void dueBetweenAndAtTheEnds(Check check) {
+        int[] delays = {99, 100, 101};
+        int[] due = {-2, -2, 101};
+        for (int i = 0; i < delays.length; i++) {
+            PromiseLoop loop = new PromiseLoop();
+            Steps.define(loop, 0, Steps.WAIT, 1, delays[i]);
+            Steps.runOnce(loop, 0, 0);
+            loop.advance(100);
+            check.same("delay " + delays[i], loop.due(1), due[i]);
+        }
     }
 }

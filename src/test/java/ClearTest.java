@@ -18,6 +18,8 @@ public final class ClearTest {
         Steps.runOnce(loop, 0, 0);
         check.log("only the new step is left", loop, 2);
         whatWaitsStays(check);
+        refusedOnesClearNothing(check);
+        fullOneHasRoomAgain(check);
         check.end();
     }
 
@@ -29,5 +31,33 @@ public final class ClearTest {
         check.same("tasks behind clear", loop.count(1), 1);
         check.same("a function without steps is a run", loop.turn(), 1);
         check.log("it did nothing", loop);
+    }
+
+    private static void refusedOnesClearNothing(Check check) {
+        PromiseLoop loop = new PromiseLoop();
+        for (int f = 0; f < 10; f++) {
+            loop.step(f, Steps.NOTE, f, 0);
+        }
+        int[] wrong = {-1, 10, Integer.MIN_VALUE, Integer.MAX_VALUE};
+        for (int f : wrong) {
+            check.illegalArgument("clear(" + f + ")", () -> loop.clear(f));
+        }
+        for (int f = 0; f < 10; f++) {
+            check.same("the second step of " + f, loop.step(f, Steps.NOTE, f, 0), 2);
+        }
+    }
+
+    private static void fullOneHasRoomAgain(Check check) {
+        PromiseLoop loop = new PromiseLoop();
+        for (int round = 0; round < 2; round++) {
+            loop.clear(9);
+            for (int i = 1; i <= 6; i++) {
+                int number = 10 * round + i;
+                check.same("step " + i, loop.step(9, Steps.NOTE, number, 0), i);
+            }
+            check.illegalState("a seventh", () -> loop.step(9, Steps.NOTE, 0, 0));
+        }
+        Steps.runOnce(loop, 9, 0);
+        check.log("the new six", loop, 11, 12, 13, 14, 15, 16);
     }
 }

@@ -6,9 +6,12 @@ public final class CountTest {
         check.illegalArgument("count(-1)", () -> loop.count(-1));
         check.illegalArgument("count(7)", () -> loop.count(7));
         check.illegalArgument("count(least)", () -> loop.count(Integer.MIN_VALUE));
+        check.illegalArgument("count(largest)", () -> loop.count(Integer.MAX_VALUE));
         eachCountsItsOwn(check);
         microtasksLeft(check);
         firstTwoHundred(check);
+        lastOneKept(check);
+        otherKindsAreNotKept(check);
         check.end();
     }
 
@@ -62,5 +65,52 @@ public final class CountTest {
         check.same("the last reported", loop.reported(199), 10005);
         check.outOfBounds("logged(200)", () -> loop.logged(200));
         check.outOfBounds("reported(200)", () -> loop.reported(200));
+    }
+
+    /** Function 0 logs and is reported once, with 1, in each of its 199 runs. */
+    private static PromiseLoop withOnePlaceLeft() {
+        PromiseLoop loop = new PromiseLoop();
+        Steps.define(loop, 0, Steps.NOTE, 1, 0, Steps.MICRO, 0, 0, Steps.FAIL, 1, 0);
+        loop.post(0, 0, 0);
+        for (int i = 0; i < 3; i++) {
+            loop.turn();
+        }
+        loop.clear(0);
+        loop.turn();
+        Steps.define(loop, 0, Steps.NOTE, 1, 0, Steps.FAIL, 1, 0);
+        for (int i = 0; i < 49; i++) {
+            Steps.runOnce(loop, 0, 0);
+        }
+        return loop;
+    }
+
+    private static void lastOneKept(Check check) {
+        PromiseLoop loop = withOnePlaceLeft();
+        check.same("logged", loop.count(5), 199);
+        check.same("reported", loop.count(6), 199);
+        check.outOfBounds("logged(199)", () -> loop.logged(199));
+        check.outOfBounds("reported(199)", () -> loop.reported(199));
+        Steps.define(loop, 1, Steps.NOTE, 2, 0, Steps.NOTE, 3, 0, Steps.FAIL, 4, 0);
+        Steps.define(loop, 2, Steps.FAIL, 5, 0);
+        Steps.runOnce(loop, 1, 0);
+        Steps.runOnce(loop, 2, 0);
+        check.same("logged, the 200th and not the 201st", loop.count(5), 200);
+        check.same("reported, likewise", loop.count(6), 200);
+        check.same("logged(199)", loop.logged(199), 2);
+        check.same("reported(199)", loop.reported(199), 10004);
+        check.same("the first logged", loop.logged(0), 1);
+        check.same("the first reported", loop.reported(0), 10001);
+    }
+
+    private static void otherKindsAreNotKept(Check check) {
+        PromiseLoop loop = withOnePlaceLeft();
+        Steps.define(loop, 1, Steps.MAKE, 0, 0, Steps.MAKE, 1, 0, Steps.SETTLE, 1, 1,
+                Steps.SETTLE, 0, 1);
+        Steps.runOnce(loop, 1, 0);
+        check.same("the 200th is an unhandled one", loop.reported(199), 20001);
+        Steps.define(loop, 1, Steps.THEN, 0, Steps.on(9, 9), Steps.THEN, 1, Steps.on(9, 9));
+        Steps.runOnce(loop, 1, 0);
+        check.same("reported, no more", loop.count(6), 200);
+        check.same("though both are handled", loop.state(0) + loop.state(1), 28);
     }
 }

@@ -8,6 +8,12 @@ public final class DueTest {
         levelsOfChains(check);
         levelsOfRepeating(check);
         levelsElsewhere(check);
+        cancelEdges(check);
+        goneTimersTask(check);
+        numbersAreNotUsedAgain(check);
+        edgesOfRepeating(check);
+        levelsOfJobsAndFrames(check);
+        levelBehindATimerThatFails(check);
         check.end();
     }
 
@@ -121,5 +127,131 @@ public final class DueTest {
             posts.turn();
             posts.turn();
         }
+    }
+
+    /** CANCEL of a number that no timer has, or none yet, or none any more, does nothing. */
+    private static void cancelEdges(Check check) {
+        PromiseLoop loop = new PromiseLoop();
+        Steps.define(loop, 0, Steps.CANCEL, 1, 0, Steps.WAIT, 1, 3, Steps.CANCEL, 2, 0,
+                Steps.EVERY, 1, 3, Steps.CANCEL, 0, 0, Steps.NOTE, 1, 0);
+        Steps.runOnce(loop, 0, 0);
+        check.log("the run goes on", loop, 1);
+        check.same("timer 1 came later", loop.due(1), 3);
+        check.same("timer 2 too", loop.due(2), 3);
+        Steps.define(loop, 0, Steps.CANCEL, -999, 0, Steps.CANCEL, 999, 0, Steps.CANCEL, -1, 0,
+                Steps.CANCEL, 3, 0, Steps.CANCEL, 1, 0, Steps.CANCEL, 1, 0);
+        Steps.runOnce(loop, 0, 0);
+        check.same("timers", loop.count(3), 1);
+        check.same("timer 1", loop.due(1), -1);
+        check.same("timer 2", loop.due(2), 3);
+        loop.advance(3);
+        check.same("no task of timer 1", loop.count(1), 1);
+        check.reports("no failure", loop);
+        cancelByItself(check);
+    }
+
+    /** One that does not repeat is gone when its function begins. */
+    private static void cancelByItself(Check check) {
+        PromiseLoop loop = new PromiseLoop();
+        Steps.define(loop, 0, Steps.WAIT, 1, 3);
+        Steps.define(loop, 1, Steps.WAIT, 2, 5, Steps.CANCEL, 1, 0);
+        Steps.runOnce(loop, 0, 0);
+        loop.advance(3);
+        loop.turn();
+        check.same("timers", loop.count(3), 1);
+        check.same("the one that it made, in its place", loop.due(2), 8);
+    }
+
+    /** It is done without running anything, and is the task of its turn. */
+    private static void goneTimersTask(Check check) {
+        PromiseLoop loop = new PromiseLoop();
+        Steps.define(loop, 0, Steps.EVERY, 1, 2, Steps.WAIT, 1, 2);
+        Steps.define(loop, 1, Steps.NOTE, 1, 0);
+        Steps.define(loop, 2, Steps.CANCEL, 1, 0, Steps.CANCEL, 2, 0, Steps.WAIT, 1, 9);
+        Steps.runOnce(loop, 0, 0);
+        loop.advance(2);
+        Steps.runOnce(loop, 2, 0);
+        loop.post(2, 1, 0);
+        check.same("two tasks of timers that are gone, and one", loop.count(1), 3);
+        check.same("the first begins no run", loop.turn(), 0);
+        check.same("it was the turn's task", loop.count(1), 2);
+        check.same("the second", loop.turn(), 0);
+        check.log("nothing was run", loop);
+        check.same("the one behind them", loop.turn(), 1);
+        check.log("was run", loop, 1);
+        check.same("a repeating one does not come back", loop.due(1), -1);
+        check.same("the timer in its place has no task", loop.due(3), 11);
+    }
+
+    private static void numbersAreNotUsedAgain(Check check) {
+        PromiseLoop loop = new PromiseLoop();
+        Steps.define(loop, 0, Steps.WAIT, 9, 1);
+        for (int t = 1; t <= 30; t++) {
+            Steps.runOnce(loop, 0, 0);
+            check.same("due(" + t + ")", loop.due(t), t);
+            check.same("the next", loop.due(t + 1), -1);
+            loop.advance(1);
+            check.same("its task waits", loop.due(t), -2);
+            loop.turn();
+            check.same("gone", loop.due(t), -1);
+        }
+    }
+
+    private static void edgesOfRepeating(Check check) {
+        int[] delays = {0, 1, 3, 4, 5, 200};
+        int[] low = {1, 1, 3, 4, 5, 200};
+        int[] high = {4, 4, 4, 4, 5, 200};
+        for (int i = 0; i < delays.length; i++) {
+            PromiseLoop loop = new PromiseLoop();
+            Steps.define(loop, 0, Steps.EVERY, 1, delays[i]);
+            Steps.runOnce(loop, 0, 0);
+            for (int level = 1; level <= 7; level++) {
+                int counted = level > 5 ? high[i] : low[i];
+                String what = "every " + delays[i] + " at level " + level;
+                check.same(what, loop.due(1) - loop.time(), counted);
+                loop.advance(Math.min(counted, 100));
+                if (counted > 100) {
+                    check.same(what + ", half way", loop.due(1) - loop.time(), 100);
+                    loop.advance(counted - 100);
+                }
+                check.same(what + ", reached", loop.due(1), -2);
+                loop.turn();
+            }
+        }
+    }
+
+    /** A job or a function for a frame that a timer's function asks for is not a run of it. */
+    private static void levelsOfJobsAndFrames(Check check) {
+        PromiseLoop jobs = new PromiseLoop();
+        Steps.define(jobs, 0, Steps.WAIT, 1, 1);
+        Steps.define(jobs, 1, Steps.MAKE, 0, 0, Steps.SETTLE, 0, 0, Steps.THEN, 0, Steps.on(0, 0));
+        Steps.runOnce(jobs, 0, 0);
+        PromiseLoop frames = new PromiseLoop();
+        Steps.define(frames, 0, Steps.WAIT, 1, 1);
+        Steps.define(frames, 1, Steps.FRAME, 0, 0);
+        Steps.runOnce(frames, 0, 0);
+        for (int t = 1; t <= 8; t++) {
+            check.same("made by a job", jobs.due(t) - jobs.time(), 1);
+            jobs.advance(1);
+            jobs.turn();
+            check.same("made in a frame", frames.due(t) - frames.time(), 1);
+            frames.advance(16);
+            frames.turn();
+        }
+    }
+
+    private static void levelBehindATimerThatFails(Check check) {
+        PromiseLoop loop = new PromiseLoop();
+        Steps.define(loop, 0, Steps.EVERY, 1, 1);
+        Steps.define(loop, 1, Steps.FAIL, 1, 0);
+        Steps.define(loop, 2, Steps.WAIT, 9, 1);
+        Steps.runOnce(loop, 0, 0);
+        for (int level = 1; level <= 7; level++) {
+            loop.advance(level > 5 ? 4 : 1);
+            loop.turn();
+            check.same("its level goes up even so", loop.due(1) - loop.time(), level < 5 ? 1 : 4);
+        }
+        Steps.runOnce(loop, 2, 0);
+        check.same("a timer that a task makes then", loop.due(2) - loop.time(), 1);
     }
 }

@@ -13,6 +13,10 @@ public final class FramesTest {
         manyFrames(check);
         atMostEight(check);
         takenOnesCount(check);
+        everyTime(check);
+        jumpsToAndOverMultiples(check);
+        notRunYetAreAmongTheEight(check);
+        askedForInACheckpoint(check);
         check.end();
     }
 
@@ -156,5 +160,65 @@ public final class FramesTest {
         Arrays.fill(due, 9998);
         check.reports("each asks for one, and for one too many", loop, due);
         check.same("asked for", loop.count(4), 8);
+    }
+
+    private static void everyTime(Check check) {
+        PromiseLoop loop = withOneAskedFor();
+        Steps.define(loop, 1, Steps.FRAME, 1, 0);
+        for (int time = 1; time <= 64; time++) {
+            loop.advance(1);
+            check.same("at " + time, loop.turn(), time % 16 == 0 ? 1 : 0);
+        }
+    }
+
+    /** A row: the time before, how far the clock is set, whether frames are due then. */
+    private static void jumpsToAndOverMultiples(Check check) {
+        int[][] rows = {{1, 14, 0}, {1, 15, 1}, {1, 16, 1}, {15, 1, 1}, {15, 2, 1}, {16, 15, 0},
+            {16, 16, 1}, {17, 14, 0}, {17, 15, 1}, {31, 1, 1}, {96, 15, 0}, {96, 100, 1}};
+        for (int[] row : rows) {
+            PromiseLoop loop = new PromiseLoop();
+            loop.advance(row[0]);
+            loop.turn();
+            Steps.define(loop, 0, Steps.FRAME, 1, 0);
+            check.same("one is asked for", Steps.runOnce(loop, 0, 0), 1);
+            loop.advance(row[1]);
+            check.same("from " + row[0] + " by " + row[1], loop.turn(), row[2]);
+        }
+    }
+
+    private static void notRunYetAreAmongTheEight(Check check) {
+        PromiseLoop loop = new PromiseLoop();
+        Steps.define(loop, 0, Steps.FRAME, 1, 0, Steps.FRAME, 2, 0, Steps.FRAME, 3, 0);
+        Steps.define(loop, 1, Steps.MICRO, 4, 0);
+        Steps.define(loop, 4, Steps.MICRO, 4, 0);
+        Steps.runOnce(loop, 0, 0);
+        loop.advance(16);
+        check.same("cut behind the first", loop.turn(), 50);
+        check.same("two were not run yet", loop.count(4), 2);
+        loop.clear(4);
+        askForSix(loop, 5, 9);
+        Steps.define(loop, 6, Steps.CALL, 5, 0, Steps.NOTE, 1, 0, Steps.FRAME, 9, 0,
+                Steps.NOTE, 2, 0);
+        check.same("the microtask, the task and eight", Steps.runOnce(loop, 6, 0), 10);
+        check.log("six found room", loop, 1);
+        check.reports("a seventh did not", loop, 9998);
+    }
+
+    /** Asked for by a microtask of the checkpoint before the frame: for this one; after it: not. */
+    private static void askedForInACheckpoint(Check check) {
+        PromiseLoop loop = new PromiseLoop();
+        Steps.define(loop, 0, Steps.MICRO, 1, 0);
+        Steps.define(loop, 1, Steps.FRAME, 2, 0);
+        Steps.define(loop, 2, Steps.NOTE, 0, 1, Steps.MICRO, 1, 0);
+        loop.advance(32);
+        check.same("the task, the microtask, the frame, its microtask",
+                Steps.runOnce(loop, 0, 0), 4);
+        check.log("once", loop, 32);
+        check.same("asked for since", loop.count(4), 1);
+        check.same("frames are not due", loop.turn(), 0);
+        loop.advance(15);
+        check.same("nor at 47", loop.turn(), 0);
+        loop.advance(1);
+        check.same("but at 48", loop.turn(), 2);
     }
 }

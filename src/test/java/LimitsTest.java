@@ -12,6 +12,11 @@ public final class LimitsTest {
         timers(check);
         cancelledTimersMakeRoom(check);
         manyTasksOfCancelledTimers(check);
+        fortiethByThen(check);
+        tasksOfTimersCount(check);
+        aboveSixty(check);
+        reactionsJobIsPut(check);
+        failedStepsPutNothing(check);
         check.end();
     }
 
@@ -196,5 +201,97 @@ public final class LimitsTest {
         }
         check.same("all tasks were done", loop.count(1), 0);
         check.log("of timers that were there, the last six", loop, 9, 9, 9, 9, 9, 9, 9);
+    }
+
+    private static void fortiethByThen(Check check) {
+        PromiseLoop loop = new PromiseLoop();
+        Steps.define(loop, 0, Steps.MAKE, 0, 0);
+        for (int i = 0; i < 39; i++) {
+            Steps.runOnce(loop, 0, 0);
+        }
+        Steps.define(loop, 0, Steps.THEN, 0, Steps.on(NONE, NONE), Steps.NOTE, 1, 0,
+                Steps.THEN, 0, Steps.on(NONE, NONE), Steps.NOTE, 2, 0);
+        Steps.runOnce(loop, 0, 0);
+        check.same("the 40th", loop.register(0), 39);
+        check.log("was made", loop, 1);
+        check.reports("the 41st was not", loop, FULL);
+        Steps.define(loop, 0, Steps.MAKE, 0, 0, Steps.NOTE, 3, 0);
+        Steps.runOnce(loop, 0, 0);
+        check.same("MAKE leaves its register", loop.register(0), 39);
+        check.same("promises", loop.count(0), 40);
+        check.reports("and fails", loop, FULL, FULL);
+    }
+
+    /** POST finds 39, 40 and 41 tasks, two of timers among them. */
+    private static void tasksOfTimersCount(Check check) {
+        for (int waiting = 39; waiting <= 41; waiting++) {
+            PromiseLoop loop = new PromiseLoop();
+            Steps.define(loop, 0, Steps.WAIT, 9, 1, Steps.WAIT, 9, 1);
+            Steps.runOnce(loop, 0, 0);
+            Steps.define(loop, 0, Steps.POST, 9, 1, Steps.NOTE, 1, 0);
+            loop.post(0, 0, 0);
+            for (int i = 0; i < waiting - 2; i++) {
+                loop.post(0, 9, 0);
+            }
+            loop.advance(1);
+            loop.turn();
+            check.same("tasks", loop.count(1), waiting == 39 ? 40 : waiting);
+            check.same("POST with " + waiting, loop.count(6), waiting == 39 ? 0 : 1);
+            check.same("went on", loop.count(5), waiting == 39 ? 1 : 0);
+        }
+    }
+
+    /** Function 1 puts 6 microtasks, function 2 puts 36, function 3 puts 24. */
+    private static PromiseLoop withFunctionsForSixty() {
+        PromiseLoop loop = new PromiseLoop();
+        sixSteps(loop, 1, Steps.MICRO, 9, 0);
+        sixSteps(loop, 2, Steps.CALL, 1, 0);
+        Steps.define(loop, 3, Steps.CALL, 1, 0, Steps.CALL, 1, 0, Steps.CALL, 1, 0,
+                Steps.CALL, 1, 0);
+        return loop;
+    }
+
+    private static void aboveSixty(Check check) {
+        PromiseLoop loop = withFunctionsForSixty();
+        Steps.define(loop, 0, Steps.MAKE, 0, 0, Steps.MAKE, 1, 0, Steps.MAKE, 2, 0);
+        Steps.runOnce(loop, 0, 0);
+        Steps.define(loop, 4, Steps.FOLLOW, 0, 1, Steps.FOLLOW, 1, 2, Steps.NOTE, 1, 0,
+                Steps.MICRO, 9, 0, Steps.NOTE, 2, 0);
+        Steps.define(loop, 0, Steps.CALL, 2, 0, Steps.CALL, 3, 0, Steps.CALL, 4, 0);
+        Steps.runOnce(loop, 0, 0);
+        check.log("jobs are put where 60 wait", loop, 1);
+        check.reports("a microtask is not put where 62 wait", loop, FULL);
+        check.same("left: 62 less 49", loop.count(2), 13);
+    }
+
+    private static void reactionsJobIsPut(Check check) {
+        PromiseLoop loop = withFunctionsForSixty();
+        Steps.define(loop, 0, Steps.MAKE, 0, 0, Steps.SETTLE, 0, 0, Steps.CALL, 2, 0,
+                Steps.CALL, 3, 0, Steps.THEN, 0, Steps.on(5, 5), Steps.NOTE, 1, 0);
+        Steps.define(loop, 5, Steps.NOTE, 0, 1);
+        Steps.runOnce(loop, 0, 8);
+        check.log("THEN where 60 wait", loop, 1);
+        check.reports("does not fail", loop);
+        check.same("left: 61 less 49", loop.count(2), 12);
+        check.same("the rest, its job as the last", loop.turn(), 12);
+        check.log("with its function", loop, 1, 8);
+    }
+
+    /** A step that fails leaves no number used, no place taken and nothing that waits. */
+    private static void failedStepsPutNothing(Check check) {
+        PromiseLoop loop = new PromiseLoop();
+        sixSteps(loop, 0, Steps.WAIT, 9, 50);
+        Steps.runOnce(loop, 0, 0);
+        Steps.runOnce(loop, 0, 0);
+        Steps.runOnce(loop, 0, 0);
+        check.reports("a 13th timer", loop, FULL);
+        Steps.define(loop, 1, Steps.CANCEL, 5, 0, Steps.EVERY, 9, 60, Steps.NOTE, 1, 0,
+                Steps.EVERY, 9, 60, Steps.NOTE, 2, 0);
+        Steps.runOnce(loop, 1, 0);
+        check.same("its number is the next one's", loop.due(13), 60);
+        check.same("there is no other", loop.due(14), -1);
+        check.same("timers", loop.count(3), 12);
+        check.log("one found room", loop, 1);
+        check.reports("the other did not", loop, FULL, FULL);
     }
 }

@@ -16,6 +16,21 @@ public final class LoggedTest {
         check.outOfBounds("logged(largest)", () -> loop.logged(Integer.MAX_VALUE));
         Steps.runOnce(loop, 0, -1);
         check.log("a second run stands behind", loop, -999, 999, 123456, 0, -999, 999, -1, 0);
+        edgesOfTheIndex(check);
         check.end();
+    }
+
+    /** The last that was logged and those beside it. */
+    private static void edgesOfTheIndex(Check check) {
+        PromiseLoop loop = new PromiseLoop();
+        Steps.define(loop, 0, Steps.NOTE, 1, 0, Steps.NOTE, 0, 1);
+        Steps.runOnce(loop, 0, Integer.MIN_VALUE);
+        Steps.runOnce(loop, 0, Integer.MAX_VALUE);
+        loop.clear(0);
+        check.log("a or x", loop, 1, Integer.MIN_VALUE, 1, Integer.MAX_VALUE);
+        int[] wrong = {-1, 4, 199, 200, Integer.MIN_VALUE, Integer.MAX_VALUE};
+        for (int i : wrong) {
+            check.outOfBounds("logged(" + i + ")", () -> loop.logged(i));
+        }
     }
 }

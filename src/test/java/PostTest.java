@@ -31,7 +31,15 @@ public final class PostTest {
         check.illegalArgument("source 3", () -> loop.post(3, 0, 0));
         check.illegalArgument("function -1", () -> loop.post(0, -1, 0));
         check.illegalArgument("function 10", () -> loop.post(0, 10, 0));
+        int[] far = {Integer.MIN_VALUE, Integer.MAX_VALUE};
+        for (int n : far) {
+            check.illegalArgument("source " + n, () -> loop.post(n, 0, 0));
+            check.illegalArgument("function " + n, () -> loop.post(0, n, 0));
+        }
         check.same("nothing was put", loop.count(1), 0);
+        check.same("so a turn has nothing to do", loop.turn(), 0);
+        check.same("the first and last that are allowed", loop.post(0, 0, 0), 1);
+        check.same("of both", loop.post(2, 9, 0), 2);
     }
 
     private static void fullQueue(Check check) {
@@ -44,6 +52,7 @@ public final class PostTest {
             int full = source;
             check.illegalState("a 41st task", () -> loop.post(full, 0, 0));
         }
+        check.same("refused ones do not wait", loop.count(1), 40);
         check.illegalArgument("a 41st task of a wrong source", () -> loop.post(3, 0, 0));
         check.illegalArgument("a 41st task of a wrong function", () -> loop.post(0, 10, 0));
         loop.turn();

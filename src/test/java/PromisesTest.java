@@ -15,6 +15,13 @@ public final class PromisesTest {
         followingARejectedOne(check);
         eachOther(check);
         settledBeforeItsJob(check);
+        everyEmptyRegister(check);
+        firstAndLastFunction(check);
+        itselfByOneRegister(check);
+        rejectedOnce(check);
+        followedByItsJob(check);
+        reactionsOfBothKinds(check);
+        registersAtTheEdge(check);
         check.end();
     }
 
@@ -159,5 +166,113 @@ public final class PromisesTest {
         check.same("rejected before", loop.state(1), 6);
         check.same("with", loop.value(1), 3);
         check.log("the function was run", loop, 1);
+    }
+
+    private static void everyEmptyRegister(Check check) {
+        PromiseLoop loop = new PromiseLoop();
+        for (int r = 0; r < 8; r++) {
+            Steps.define(loop, 0, Steps.SETTLE, r, 0, Steps.SETTLE, r, 1, Steps.FOLLOW, r, r,
+                    Steps.FOLLOW, r, 7 - r, Steps.THEN, r, Steps.on(9, 9), Steps.NOTE, r, 0);
+            check.same("a task", Steps.runOnce(loop, 0, 5), 1);
+            check.same("register(" + r + ")", loop.register(r), -1);
+        }
+        check.same("promises", loop.count(0), 0);
+        check.same("jobs", loop.count(2), 0);
+        check.log("all steps were done", loop, 0, 1, 2, 3, 4, 5, 6, 7);
+        check.reports("no failure", loop);
+    }
+
+    /** Functions 0 and 9 are functions, 10 is none; for a value and for a reason. */
+    private static void firstAndLastFunction(Check check) {
+        for (int f = 0; f <= 10; f++) {
+            PromiseLoop loop = new PromiseLoop();
+            int task = f == 5 ? 6 : 5;
+            Steps.define(loop, task, Steps.MAKE, 0, 0, Steps.MAKE, 1, 0, Steps.SETTLE, 0, 0,
+                    Steps.SETTLE, 1, 1, Steps.THEN, 0, Steps.on(f, NONE),
+                    Steps.THEN, 1, Steps.on(NONE, f));
+            if (f < 10) {
+                Steps.define(loop, f, Steps.ANSWER, 100 + f, 0);
+            }
+            check.same("function " + f, Steps.runOnce(loop, task, 3), f < 10 ? 3 : 1);
+            check.same("for a value", loop.value(2), f < 10 ? 100 + f : 3);
+            check.same("for a reason", loop.value(3), f < 10 ? 100 + f : 3);
+            check.same("what handles a reason fulfils", loop.state(3), f < 10 ? 5 : 6);
+        }
+    }
+
+    private static void itselfByOneRegister(Check check) {
+        PromiseLoop loop = new PromiseLoop();
+        Steps.define(loop, 0, Steps.MAKE, 7, 0, Steps.FOLLOW, 7, 7, Steps.SETTLE, 7, 0);
+        check.same("no job is put", Steps.runOnce(loop, 0, 4), 1);
+        check.same("rejected", loop.state(0), 6);
+        check.same("with", loop.value(0), -3);
+        Steps.define(loop, 0, Steps.MAKE, 7, 0, Steps.COPY, 6, 7, Steps.THEN, 6, Steps.on(9, 1),
+                Steps.FOLLOW, 7, 7);
+        Steps.define(loop, 1, Steps.NOTE, 0, 1);
+        Steps.runOnce(loop, 0, 4);
+        check.log("what waits with it has the reason", loop, -3);
+        check.reports("only the one that is not handled", loop, 20000);
+    }
+
+    private static void rejectedOnce(Check check) {
+        PromiseLoop loop = new PromiseLoop();
+        Steps.define(loop, 0, Steps.MAKE, 0, 0, Steps.MAKE, 1, 0, Steps.SETTLE, 0, 1);
+        Steps.define(loop, 1, Steps.SETTLE, 0, 1, Steps.SETTLE, 0, 0, Steps.FOLLOW, 0, 1,
+                Steps.FOLLOW, 0, 0);
+        Steps.runOnce(loop, 0, 4);
+        Steps.runOnce(loop, 1, 5);
+        check.same("rejected", loop.state(0), 6);
+        check.same("with the first number", loop.value(0), 4);
+        check.same("nothing follows the other", loop.state(1), 0);
+        check.reports("reported once", loop, 20000);
+        Steps.define(loop, 0, Steps.MAKE, 2, 0, Steps.MAKE, 3, 0, Steps.FOLLOW, 2, 3,
+                Steps.FOLLOW, 2, 1);
+        Steps.runOnce(loop, 0, 0);
+        check.same("one that follows another", loop.state(2), 4);
+        check.same("does not follow a third", loop.state(1), 0);
+    }
+
+    /** The other is handled when the job is run that puts the reaction, not before. */
+    private static void followedByItsJob(Check check) {
+        PromiseLoop loop = new PromiseLoop();
+        Steps.define(loop, 0, Steps.MAKE, 0, 0, Steps.MAKE, 1, 0, Steps.CALL, 1, 0,
+                Steps.CALL, 1, 0, Steps.FOLLOW, 0, 1);
+        Steps.define(loop, 1, Steps.CALL, 2, 0, Steps.CALL, 2, 0, Steps.CALL, 2, 0,
+                Steps.CALL, 2, 0, Steps.CALL, 2, 0);
+        Steps.define(loop, 2, Steps.MICRO, 9, 0, Steps.MICRO, 9, 0, Steps.MICRO, 9, 0,
+                Steps.MICRO, 9, 0, Steps.MICRO, 9, 0, Steps.MICRO, 9, 0);
+        check.same("cut before the job", Steps.runOnce(loop, 0, 0), 50);
+        check.same("resolved", loop.state(0), 4);
+        check.same("the other is not handled yet", loop.state(1), 0);
+        loop.turn();
+        check.same("handled", loop.state(1), 8);
+        check.same("pending still", loop.state(0), 4);
+    }
+
+    /** Promise 1 follows promise 0 before a THEN is put there, so it is settled first. */
+    private static void reactionsOfBothKinds(Check check) {
+        PromiseLoop loop = new PromiseLoop();
+        Steps.define(loop, 0, Steps.MAKE, 0, 0, Steps.MAKE, 1, 0, Steps.FOLLOW, 1, 0);
+        Steps.runOnce(loop, 0, 0);
+        Steps.define(loop, 0, Steps.COPY, 2, 0, Steps.THEN, 2, Steps.on(1, NONE),
+                Steps.SETTLE, 0, 0);
+        Steps.define(loop, 1, Steps.THEN, 1, Steps.on(2, NONE), Steps.MICRO, 3, 0);
+        Steps.define(loop, 2, Steps.NOTE, 2, 0);
+        Steps.define(loop, 3, Steps.NOTE, 3, 0);
+        Steps.runOnce(loop, 0, 0);
+        check.log("promise 1 was settled when function 1 was run", loop, 2, 3);
+    }
+
+    private static void registersAtTheEdge(Check check) {
+        PromiseLoop loop = new PromiseLoop();
+        Steps.define(loop, 0, Steps.MAKE, 0, 0, Steps.MAKE, 7, 0, Steps.SETTLE, 7, 0,
+                Steps.FOLLOW, 0, 7);
+        Steps.runOnce(loop, 0, 12);
+        check.same("register 0 follows register 7", loop.value(0), 12);
+        Steps.define(loop, 0, Steps.COPY, 7, 0, Steps.COPY, 0, 6, Steps.THEN, 7, Steps.on(1, 1));
+        Steps.define(loop, 1, Steps.ANSWER, 7, 2);
+        Steps.runOnce(loop, 0, 0);
+        check.same("what register 7 holds", loop.register(7), 2);
+        check.same("its own result", loop.value(2), -3);
     }
 }

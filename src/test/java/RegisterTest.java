@@ -6,6 +6,7 @@ public final class RegisterTest {
         check.outOfBounds("register(-1)", () -> loop.register(-1));
         check.outOfBounds("register(8)", () -> loop.register(8));
         check.outOfBounds("register(least)", () -> loop.register(Integer.MIN_VALUE));
+        check.outOfBounds("register(largest)", () -> loop.register(Integer.MAX_VALUE));
 
         Steps.define(loop, 0, Steps.MAKE, 7, 0, Steps.MAKE, 0, 0, Steps.MAKE, 7, 0);
         Steps.runOnce(loop, 0, 0);

@@ -2,7 +2,7 @@ import java.lang.management.ManagementFactory;
 
 /** All calls of a run live in one room: an object is small, and its calls make nothing. */
 public final class RoomTest {
-    private static final int TURNS = 400;
+    private static final int TURNS = 220;
     private static final int LARGEST_OBJECT = 32 * 1024;
     private static final int MADE_BY_MEASURING = 4 * 1024;
 

@@ -12,6 +12,10 @@ public final class RunsTest {
         thirtyCalls(check);
         handlerIsOneToo(check);
         callsAreCountedAnew(check);
+        tryIsOneToo(check);
+        refusedCallsAreNotCounted(check);
+        jobsAndTimersCountAnew(check);
+        numbersOfFailure(check);
         check.end();
     }
 
@@ -186,5 +190,83 @@ public final class RunsTest {
         check.same("a task, two microtasks and a frame", Steps.runOnce(loop, 5, 0), 4);
         check.same("with 30 calls each", loop.count(5), 3 * 24);
         check.reports("no failure", loop);
+    }
+
+    /** Function 0 calls function 1 five times, each with these calls of function 3, and a TRY. */
+    private static PromiseLoop withATryBehind(int callsOfTheLast) {
+        PromiseLoop loop = new PromiseLoop();
+        for (int i = 0; i < 5; i++) {
+            loop.step(0, Steps.CALL, i < 4 ? 1 : 2, 0);
+            loop.step(1, Steps.CALL, 3, 0);
+        }
+        for (int i = 0; i < callsOfTheLast; i++) {
+            loop.step(2, Steps.CALL, 3, 0);
+        }
+        loop.step(0, Steps.TRY, 4, 5);
+        Steps.define(loop, 4, Steps.NOTE, 4, 0, Steps.FAIL, 44, 0);
+        Steps.define(loop, 5, Steps.NOTE, 0, 1);
+        return loop;
+    }
+
+    private static void tryIsOneToo(Check check) {
+        PromiseLoop all = withATryBehind(5);
+        Steps.runOnce(all, 0, 0);
+        check.log("30 begun: TRY runs neither function", all);
+        check.reports("and fails its run", all, 9999);
+        PromiseLoop one = withATryBehind(4);
+        Steps.runOnce(one, 0, 0);
+        check.log("29 begun: TRY runs function a only", one, 4);
+        check.reports("function b fails", one, 9999);
+        PromiseLoop two = withATryBehind(3);
+        Steps.runOnce(two, 0, 0);
+        check.log("28 begun: TRY runs both", two, 4, 44);
+        check.reports("without a failure", two);
+    }
+
+    /** Five rounds of six runs each; a seventh in each is refused for its depth. */
+    private static void refusedCallsAreNotCounted(Check check) {
+        PromiseLoop loop = new PromiseLoop();
+        Steps.define(loop, 0, Steps.CALL, 1, 0, Steps.CALL, 1, 0, Steps.CALL, 1, 0,
+                Steps.CALL, 1, 0, Steps.CALL, 1, 0, Steps.NOTE, 1, 0);
+        Steps.define(loop, 1, Steps.CALL, 2, 0);
+        Steps.define(loop, 2, Steps.CALL, 3, 0);
+        Steps.define(loop, 3, Steps.CALL, 4, 0);
+        Steps.define(loop, 4, Steps.TRY, 5, 6);
+        Steps.define(loop, 5, Steps.TRY, 9, 9);
+        Steps.define(loop, 6, Steps.NOTE, 0, 1);
+        Steps.runOnce(loop, 0, 0);
+        check.log("caught 6 deep, five times", loop, -1, -1, -1, -1, -1, 1);
+        check.reports("none was the 31st", loop);
+    }
+
+    private static void jobsAndTimersCountAnew(Check check) {
+        PromiseLoop loop = withThirtyCalls();
+        Steps.define(loop, 5, Steps.MAKE, 0, 0, Steps.SETTLE, 0, 0, Steps.THEN, 0, Steps.on(0, 0),
+                Steps.WAIT, 0, 1, Steps.CALL, 1, 0);
+        check.same("a task and a job", Steps.runOnce(loop, 5, 0), 2);
+        check.same("with 5 and 30 calls", loop.count(5), 4 + 24);
+        check.same("the job's function ended", loop.state(1), 5);
+        loop.advance(1);
+        check.same("a timer", loop.turn(), 1);
+        check.same("with 30", loop.count(5), 4 + 24 + 24);
+        check.reports("no failure", loop);
+    }
+
+    /** The failures of steps are numbers like any: caught by TRY, and by a reaction. */
+    private static void numbersOfFailure(Check check) {
+        PromiseLoop loop = new PromiseLoop();
+        Steps.define(loop, 0, Steps.TRY, 1, 9, Steps.TRY, 2, 9, Steps.TRY, 3, 9);
+        Steps.define(loop, 1, Steps.FAIL, -999, 0);
+        Steps.define(loop, 2, Steps.FAIL, 999, 0);
+        Steps.define(loop, 3, Steps.FAIL, 5, 1);
+        Steps.define(loop, 9, Steps.NOTE, 0, 1);
+        Steps.runOnce(loop, 0, Integer.MIN_VALUE);
+        check.log("FAIL with a or with x", loop, -999, 999, Integer.MIN_VALUE);
+        Steps.define(loop, 1, Steps.CALL, 1, 0);
+        Steps.define(loop, 0, Steps.MAKE, 0, 0, Steps.SETTLE, 0, 0, Steps.THEN, 0, Steps.on(1, 9),
+                Steps.THEN, 0, Steps.on(9, 9));
+        Steps.runOnce(loop, 0, 7);
+        check.same("a job whose function calls too deep", loop.value(1), -1);
+        check.same("is caught with it", loop.logged(3), -1);
     }
 }

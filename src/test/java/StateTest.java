@@ -21,6 +21,8 @@ public final class StateTest {
         check.outOfBounds("state(1)", () -> loop.state(1));
         check.outOfBounds("state(-1)", () -> loop.state(-1));
         check.outOfBounds("state(40)", () -> loop.state(40));
+        check.outOfBounds("state(least)", () -> loop.state(Integer.MIN_VALUE));
+        check.outOfBounds("state(largest)", () -> loop.state(Integer.MAX_VALUE));
         for (int i = 1; i < 40; i++) {
             Steps.runOnce(loop, 0, 0);
         }

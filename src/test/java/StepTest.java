@@ -25,6 +25,7 @@ public final class StepTest {
         wrongFunctionsAndCodes(check);
         fullFunction(check);
         orderOfSteps(check);
+        stepsWhenItBegins(check);
         check.end();
     }
 
@@ -73,10 +74,15 @@ public final class StepTest {
         PromiseLoop loop = new PromiseLoop();
         check.illegalArgument("step of function -1", () -> loop.step(-1, 0, 0, 0));
         check.illegalArgument("step of function 10", () -> loop.step(10, 0, 0, 0));
+        check.illegalArgument("largest function", () -> loop.step(Integer.MAX_VALUE, 0, 0, 0));
+        check.illegalArgument("least function", () -> loop.step(Integer.MIN_VALUE, 0, 0, 0));
         check.illegalArgument("code -1", () -> loop.step(0, -1, 0, 0));
         check.illegalArgument("code 16", () -> loop.step(0, 16, 0, 0));
         check.illegalArgument("largest code", () -> loop.step(0, Integer.MAX_VALUE, 0, 0));
         check.illegalArgument("least code", () -> loop.step(0, Integer.MIN_VALUE, 0, 0));
+        for (int f = 0; f < 10; f++) {
+            check.same("the first step of " + f, loop.step(f, Steps.NOTE, f, 0), 1);
+        }
     }
 
     private static void fullFunction(Check check) {
@@ -99,5 +105,29 @@ public final class StepTest {
         loop.step(0, Steps.NOTE, 5, 0);
         Steps.runOnce(loop, 0, 0);
         check.log("steps put in turns", loop, 4, 5);
+    }
+
+    /** Whatever waits for a function finds the steps that it has when it begins. */
+    private static void stepsWhenItBegins(Check check) {
+        PromiseLoop loop = new PromiseLoop();
+        Steps.define(loop, 0, Steps.WAIT, 1, 5, Steps.FRAME, 1, 0, Steps.MAKE, 0, 0,
+                Steps.COPY, 1, 0, Steps.THEN, 1, Steps.on(1, 1));
+        Steps.runOnce(loop, 0, 0);
+        loop.post(0, 1, 0);
+        loop.step(1, Steps.NOTE, 1, 0);
+        loop.turn();
+        check.log("a task", loop, 1);
+        loop.step(1, Steps.NOTE, 2, 0);
+        loop.advance(5);
+        loop.turn();
+        check.log("a timer", loop, 1, 1, 2);
+        Steps.define(loop, 1, Steps.NOTE, 3, 0);
+        loop.advance(11);
+        loop.turn();
+        check.log("a frame", loop, 1, 1, 2, 3);
+        Steps.define(loop, 1, Steps.NOTE, 4, 0);
+        Steps.define(loop, 2, Steps.SETTLE, 0, 0);
+        Steps.runOnce(loop, 2, 0);
+        check.log("a reaction", loop, 1, 1, 2, 3, 4);
     }
 }

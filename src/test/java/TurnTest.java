@@ -14,6 +14,10 @@ public final class TurnTest {
         jobsWithoutFunctionsBeginNothing(check);
         cutBeforeAJob(check);
         cutBeforeAFrame(check);
+        nothingToDo(check);
+        exactlyFifty(check);
+        oneMoreThanFifty(check);
+        cutBetweenFrames(check);
         check.end();
     }
 
@@ -170,5 +174,66 @@ public final class TurnTest {
         check.log("and was not run", loop);
         check.same("frames are due still", loop.turn(), 2);
         check.log("in their order", loop, 17, 1);
+    }
+
+    private static void nothingToDo(Check check) {
+        PromiseLoop loop = new PromiseLoop();
+        check.same("no task, no microtask, no frame", loop.turn(), 0);
+        Steps.define(loop, 0, Steps.WAIT, 1, 2, Steps.FRAME, 1, 0);
+        Steps.runOnce(loop, 0, 0);
+        loop.advance(1);
+        check.same("a timer and a frame that are not due", loop.turn(), 0);
+    }
+
+    /**
+     * Its task is for function 0, which rejects promise 0 and puts 48 microtasks and those that
+     * function 5 puts.
+     */
+    private static PromiseLoop withManyMicrotasks(int... five) {
+        PromiseLoop loop = new PromiseLoop();
+        Steps.define(loop, 0, Steps.MAKE, 0, 0, Steps.SETTLE, 0, 1, Steps.CALL, 1, 0,
+                Steps.CALL, 3, 0, Steps.CALL, 5, 0);
+        for (int i = 0; i < 6; i++) {
+            loop.step(1, Steps.CALL, 2, 0);
+            loop.step(2, Steps.MICRO, 9, 0);
+        }
+        Steps.define(loop, 3, Steps.CALL, 2, 0, Steps.CALL, 2, 0);
+        Steps.define(loop, 5, five);
+        loop.advance(16);
+        loop.post(0, 0, 0);
+        return loop;
+    }
+
+    private static void exactlyFifty(Check check) {
+        PromiseLoop loop = withManyMicrotasks(Steps.MICRO, 9, 0);
+        check.same("the task and 49 microtasks", loop.turn(), 50);
+        check.same("none is left", loop.count(2), 0);
+        check.reports("the checkpoint came to its end", loop, 20000);
+        Steps.define(loop, 6, Steps.FRAME, 9, 0);
+        check.same("and the turn: frames are not due", Steps.runOnce(loop, 6, 0), 1);
+    }
+
+    private static void oneMoreThanFifty(Check check) {
+        PromiseLoop loop = withManyMicrotasks(Steps.MICRO, 9, 0, Steps.MICRO, 9, 0);
+        check.same("the task and 49 microtasks", loop.turn(), 50);
+        check.same("the 50th is left", loop.count(2), 1);
+        check.reports("the checkpoint was cut", loop);
+        Steps.define(loop, 6, Steps.FRAME, 9, 0);
+        check.same("and the turn: frames are due", Steps.runOnce(loop, 6, 0), 3);
+        check.reports("the end of the next checkpoint", loop, 20000);
+    }
+
+    private static void cutBetweenFrames(Check check) {
+        PromiseLoop loop = withManyMicrotasks(Steps.FRAME, 7, 0, Steps.FRAME, 8, 0);
+        Steps.define(loop, 7, Steps.NOTE, 7, 0, Steps.MAKE, 1, 0, Steps.SETTLE, 1, 1,
+                Steps.FRAME, 9, 0);
+        Steps.define(loop, 8, Steps.NOTE, 8, 0);
+        check.same("the task, 48 microtasks and the first function", loop.turn(), 50);
+        check.log("the second was not run", loop, 7);
+        check.reports("the checkpoint between them was", loop, 20000, 20001);
+        check.same("it stays, and one asked for since", loop.count(4), 2);
+        check.same("frames are due still", loop.turn(), 2);
+        check.log("the second", loop, 7, 8);
+        check.same("not any more", loop.turn(), 0);
     }
 }

@@ -22,6 +22,7 @@ public final class ValueTest {
         check.same("fulfilled once", loop.value(0), 1234567);
         check.same("rejected once", loop.value(1), -1234567);
         resolvedButPending(check);
+        bounds(check);
         check.end();
     }
 
@@ -34,5 +35,21 @@ public final class ValueTest {
         Steps.define(loop, 0, Steps.SETTLE, 1, 0);
         Steps.runOnce(loop, 0, 8);
         check.same("its value then", loop.value(0), 8);
+    }
+
+    private static void bounds(Check check) {
+        PromiseLoop loop = new PromiseLoop();
+        check.outOfBounds("value(-1) with none", () -> loop.value(-1));
+        Steps.define(loop, 0, Steps.MAKE, 0, 0, Steps.SETTLE, 0, 0);
+        for (int i = 0; i < 40; i++) {
+            check.outOfBounds("value(" + i + ") before it is made", () -> loop.value(loop.count(0)));
+            Steps.runOnce(loop, 0, 500 + i);
+        }
+        check.same("the first", loop.value(0), 500);
+        check.same("the last", loop.value(39), 539);
+        int[] wrong = {-1, 40, Integer.MIN_VALUE, Integer.MAX_VALUE};
+        for (int p : wrong) {
+            check.outOfBounds("value(" + p + ")", () -> loop.value(p));
+        }
     }
 }
