@@ -28,7 +28,7 @@ final class Check {
         fails(what, call, IndexOutOfBoundsException.class);
     }
 
-    private void fails(String what, Runnable call, Class<? extends RuntimeException> due) {
+    void fails(String what, Runnable call, Class<? extends RuntimeException> due) {
         done++;
         String got = "nothing";
         try {

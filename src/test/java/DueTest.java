@@ -14,6 +14,7 @@ public final class DueTest {
         edgesOfRepeating(check);
         levelsOfJobsAndFrames(check);
         levelBehindATimerThatFails(check);
+        levelsBehindAnotherTimer(check);
         check.end();
     }
 
@@ -253,5 +254,25 @@ public final class DueTest {
         }
         Steps.runOnce(loop, 2, 0);
         check.same("a timer that a task makes then", loop.due(2) - loop.time(), 1);
+    }
+
+    /** The chain that a task begins anew begins with level 1, whatever was run before. */
+    private static void levelsBehindAnotherTimer(Check check) {
+        PromiseLoop loop = new PromiseLoop();
+        Steps.define(loop, 0, Steps.WAIT, 0, 1);
+        int timer = 1;
+        for (int length = 1; length <= 7; length++) {
+            Steps.define(loop, 1, Steps.CANCEL, timer - 1, 0, Steps.WAIT, 0, 1);
+            Steps.runOnce(loop, 1, 0);
+            for (int level = 1; level <= length; level++) {
+                int counted = level > 5 ? 4 : 1;
+                String what = "level " + level + " of chain " + length;
+                check.same(what, loop.due(timer) - loop.time(), counted);
+                loop.advance(counted);
+                loop.turn();
+                timer++;
+            }
+            timer++;
+        }
     }
 }

@@ -17,6 +17,7 @@ public final class LimitsTest {
         aboveSixty(check);
         reactionsJobIsPut(check);
         failedStepsPutNothing(check);
+        mostJobsAtOnce(check);
         check.end();
     }
 
@@ -293,5 +294,32 @@ public final class LimitsTest {
         check.same("timers", loop.count(3), 12);
         check.log("one found room", loop, 1);
         check.reports("the other did not", loop, FULL, FULL);
+    }
+
+    /**
+     * Promises 2 to 39 are each made by a THEN to promise 0 and follow promise 1, so that both have
+     * 38 reactions, which become jobs behind 60 microtasks.
+     */
+    private static void mostJobsAtOnce(Check check) {
+        PromiseLoop loop = withFunctionsForSixty();
+        Steps.define(loop, 0, Steps.MAKE, 0, 0, Steps.MAKE, 1, 0);
+        Steps.runOnce(loop, 0, 0);
+        Steps.define(loop, 0, Steps.COPY, 2, 0, Steps.THEN, 2, Steps.on(5, 5), Steps.FOLLOW, 2, 1,
+                Steps.COPY, 2, 0, Steps.THEN, 2, Steps.on(5, 5), Steps.FOLLOW, 2, 1);
+        for (int i = 0; i < 19; i++) {
+            Steps.runOnce(loop, 0, 0);
+        }
+        check.same("promises", loop.count(0), 40);
+        Steps.define(loop, 0, Steps.CALL, 2, 0, Steps.CALL, 3, 0, Steps.SETTLE, 0, 0,
+                Steps.SETTLE, 1, 1);
+        check.same("cut", Steps.runOnce(loop, 0, 6), 50);
+        check.same("60 microtasks and 76 jobs, less 49", loop.count(2), 87);
+        check.same("11 microtasks and 38 functions", loop.turn(), 49);
+        check.same("none is left", loop.count(2), 0);
+        for (int p = 2; p < 40; p++) {
+            check.same("state(" + p + ")", loop.state(p), 6);
+            check.same("value(" + p + ")", loop.value(p), 6);
+            check.same("reported(" + (p - 2) + ")", loop.reported(p - 2), 20000 + p);
+        }
     }
 }

@@ -94,13 +94,13 @@ public final class PostTest {
     private static void manyTasks(Check check) {
         PromiseLoop loop = new PromiseLoop();
         Steps.define(loop, 0, Steps.NOTE, 0, 1);
-        for (int i = 0; i < 100; i++) {
+        for (int i = 0; i < 80; i++) {
             loop.post(i % 2 * 2, 0, i);
             loop.post(i % 2 * 2, 0, i);
             loop.turn();
             loop.turn();
         }
-        for (int i = 0; i < 200; i++) {
+        for (int i = 0; i < 160; i++) {
             check.same("logged(" + i + ")", loop.logged(i), i / 2);
         }
     }

@@ -16,6 +16,7 @@ public final class RunsTest {
         refusedCallsAreNotCounted(check);
         jobsAndTimersCountAnew(check);
         numbersOfFailure(check);
+        sixDeepByTry(check);
         check.end();
     }
 
@@ -268,5 +269,26 @@ public final class RunsTest {
         Steps.runOnce(loop, 0, 7);
         check.same("a job whose function calls too deep", loop.value(1), -1);
         check.same("is caught with it", loop.logged(3), -1);
+    }
+
+    /** Each run is begun by the TRY of the one before, as function a or as function b. */
+    private static void sixDeepByTry(Check check) {
+        PromiseLoop loop = new PromiseLoop();
+        for (int f = 0; f < 7; f++) {
+            Steps.define(loop, f, Steps.NOTE, f, 0, Steps.TRY, f + 1, 9);
+        }
+        Steps.define(loop, 9, Steps.NOTE, 0, 1);
+        Steps.runOnce(loop, 0, 7);
+        check.log("functions a: the sixth fails", loop, 0, 1, 2, 3, 4, 5, -1);
+        check.reports("caught", loop);
+
+        PromiseLoop other = new PromiseLoop();
+        for (int f = 0; f < 7; f++) {
+            Steps.define(other, f, Steps.NOTE, f, 0, Steps.TRY, 9, f + 1);
+        }
+        Steps.define(other, 9, Steps.FAIL, 3, 0);
+        Steps.runOnce(other, 0, 7);
+        check.log("functions b: the sixth fails", other, 0, 1, 2, 3, 4, 5);
+        check.reports("not caught", other, 9999);
     }
 }

@@ -18,6 +18,7 @@ public final class TurnTest {
         exactlyFifty(check);
         oneMoreThanFifty(check);
         cutBetweenFrames(check);
+        cutBeforeATaskLeavesFramesDue(check);
         check.end();
     }
 
@@ -235,5 +236,17 @@ public final class TurnTest {
         check.same("frames are due still", loop.turn(), 2);
         check.log("the second", loop, 7, 8);
         check.same("not any more", loop.turn(), 0);
+    }
+
+    /** It ends at once: that no function is asked for a frame is not looked at. */
+    private static void cutBeforeATaskLeavesFramesDue(Check check) {
+        PromiseLoop loop = withFiftyToBegin();
+        Steps.define(loop, 0, Steps.FRAME, 1, 0);
+        Steps.define(loop, 1, Steps.NOTE, 0, 1);
+        loop.post(0, 0, 0);
+        loop.advance(16);
+        check.same("50 microtasks", loop.turn(), 50);
+        check.same("the task and the frame", loop.turn(), 2);
+        check.log("frames were due still", loop, 16);
     }
 }

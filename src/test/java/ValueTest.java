@@ -42,7 +42,7 @@ public final class ValueTest {
         check.outOfBounds("value(-1) with none", () -> loop.value(-1));
         Steps.define(loop, 0, Steps.MAKE, 0, 0, Steps.SETTLE, 0, 0);
         for (int i = 0; i < 40; i++) {
-            check.outOfBounds("value(" + i + ") before it is made", () -> loop.value(loop.count(0)));
+            check.outOfBounds("value of the next one", () -> loop.value(loop.count(0)));
             Steps.runOnce(loop, 0, 500 + i);
         }
         check.same("the first", loop.value(0), 500);
