@@ -15,6 +15,8 @@ public final class DueTest {
         levelsOfJobsAndFrames(check);
         levelBehindATimerThatFails(check);
         levelsBehindAnotherTimer(check);
+        levelsFromEachOrigin(check);
+        levelsByEachWay(check);
         check.end();
     }
 
@@ -273,6 +275,65 @@ public final class DueTest {
                 timer++;
             }
             timer++;
+        }
+    }
+
+    /**
+     * Function 2 lets function 0 be run, which makes the first timer of a chain: its level is 1
+     * wherever it is made, the task of function 2 being that of a timer or not.
+     */
+    private static void levelsFromEachOrigin(Check check) {
+        int[][] origins = {
+            {Steps.POST, 0, 0},
+            {Steps.MICRO, 0, 0},
+            {Steps.FRAME, 0, 0},
+            {Steps.MAKE, 0, 0, Steps.SETTLE, 0, 0, Steps.THEN, 0, Steps.on(0, 10)},
+            {Steps.MAKE, 0, 0, Steps.SETTLE, 0, 1, Steps.THEN, 0, Steps.on(10, 0)}};
+        for (int[] origin : origins) {
+            PromiseLoop loop = new PromiseLoop();
+            Steps.define(loop, 0, Steps.WAIT, 1, 1);
+            Steps.define(loop, 1, Steps.WAIT, 1, 1);
+            Steps.define(loop, 2, origin);
+            loop.advance(15);
+            loop.post(1, 2, 0);
+            loop.advance(1);
+            loop.turn();
+            loop.turn();
+            chain(check, "from code " + origin[0], loop, 1);
+
+            Steps.define(loop, 4, Steps.CANCEL, 8, 0, Steps.WAIT, 2, 1);
+            Steps.runOnce(loop, 4, 0);
+            loop.advance(16);
+            loop.turn();
+            loop.turn();
+            chain(check, "from a timer's code " + origin[0], loop, 10);
+        }
+    }
+
+    /** In the run of a timer's function, and in what it runs by each way there is. */
+    private static void levelsByEachWay(Check check) {
+        int[][] ways = {{Steps.WAIT, 1, 1}, {Steps.CALL, 3, 0}, {Steps.TRY, 3, 9},
+            {Steps.TRY, 4, 3}, {Steps.CALL, 5, 0}, {Steps.TRY, 5, 9}};
+        for (int[] way : ways) {
+            PromiseLoop loop = new PromiseLoop();
+            Steps.define(loop, 0, Steps.WAIT, 1, 1);
+            Steps.define(loop, 1, way);
+            Steps.define(loop, 3, Steps.WAIT, 1, 1);
+            Steps.define(loop, 4, Steps.FAIL, 1, 0);
+            Steps.define(loop, 5, Steps.TRY, 4, 3);
+            Steps.runOnce(loop, 0, 0);
+            chain(check, "by code " + way[0] + " " + way[1], loop, 1);
+        }
+    }
+
+    /** From this timer on, which is of level 1, each of seven makes the next with a delay of 1. */
+    private static void chain(Check check, String what, PromiseLoop loop, int first) {
+        for (int level = 1; level <= 7; level++) {
+            int counted = level > 5 ? 4 : 1;
+            int due = loop.due(first + level - 1);
+            check.same(what + ", level " + level, due - loop.time(), counted);
+            loop.advance(counted);
+            loop.turn();
         }
     }
 }

@@ -161,7 +161,39 @@ public final class LimitsTest {
         check.same("a repeating timer that cancels itself", loop.due(1), -1);
         check.same("is not what took its place", loop.due(2), 12);
         check.same("timers", loop.count(3), 1);
+        cancelledAndNothingElse(check);
+        cancelledForARepeatingOne(check);
         failedInItsRun(check);
+    }
+
+    private static void cancelledAndNothingElse(Check check) {
+        PromiseLoop loop = new PromiseLoop();
+        Steps.define(loop, 0, Steps.EVERY, 1, 5);
+        Steps.define(loop, 1, Steps.CANCEL, 1, 0);
+        Steps.runOnce(loop, 0, 0);
+        loop.advance(5);
+        check.same("its last run", loop.turn(), 1);
+        check.same("it is not due again", loop.due(1), -1);
+        check.same("no timer", loop.count(3), 0);
+        loop.advance(100);
+        check.same("no task", loop.count(1), 0);
+    }
+
+    /** The one in its place is as it was made: of level 2, and due by its own delay. */
+    private static void cancelledForARepeatingOne(Check check) {
+        PromiseLoop loop = new PromiseLoop();
+        Steps.define(loop, 0, Steps.EVERY, 1, 5);
+        Steps.define(loop, 1, Steps.CANCEL, 1, 0, Steps.EVERY, 2, 3);
+        Steps.runOnce(loop, 0, 0);
+        loop.advance(5);
+        loop.turn();
+        check.same("the old one", loop.due(1), -1);
+        for (int level = 2; level <= 6; level++) {
+            int counted = level > 5 ? 4 : 3;
+            check.same("the new one", loop.due(2) - loop.time(), counted);
+            loop.advance(counted);
+            loop.turn();
+        }
     }
 
     private static void failedInItsRun(Check check) {

@@ -17,6 +17,8 @@ public final class RunsTest {
         jobsAndTimersCountAnew(check);
         numbersOfFailure(check);
         sixDeepByTry(check);
+        everyStepHandsOn(check);
+        sourcesOfPost(check);
         check.end();
     }
 
@@ -290,5 +292,42 @@ public final class RunsTest {
         Steps.runOnce(other, 0, 7);
         check.log("functions b: the sixth fails", other, 0, 1, 2, 3, 4, 5);
         check.reports("not caught", other, 9999);
+    }
+
+    /** What each step that begins or puts something gives it as x. */
+    private static void everyStepHandsOn(Check check) {
+        PromiseLoop loop = new PromiseLoop();
+        Steps.define(loop, 0, Steps.CALL, 9, 0, Steps.TRY, 9, 8, Steps.MICRO, 9, 0,
+                Steps.POST, 9, 0, Steps.WAIT, 9, 1, Steps.EVERY, 9, 2);
+        Steps.define(loop, 9, Steps.NOTE, 0, 1);
+        Steps.runOnce(loop, 0, 71);
+        check.log("CALL, TRY, MICRO", loop, 71, 71, 71);
+        loop.turn();
+        check.log("POST", loop, 71, 71, 71, 71);
+        loop.advance(1);
+        loop.turn();
+        check.log("WAIT", loop, 71, 71, 71, 71, 71);
+        loop.advance(1);
+        loop.turn();
+        loop.advance(2);
+        loop.turn();
+        check.log("EVERY, each time", loop, 71, 71, 71, 71, 71, 71, 71);
+        check.reports("no failure", loop);
+    }
+
+    private static void sourcesOfPost(Check check) {
+        PromiseLoop loop = new PromiseLoop();
+        for (int source = 0; source <= 2; source++) {
+            Steps.define(loop, 1 + source, Steps.NOTE, source, 0);
+            loop.step(0, Steps.POST, 3 - source, 2 - source);
+            loop.step(0, Steps.POST, 3 - source, 2 - source);
+        }
+        Steps.runOnce(loop, 0, 0);
+        int[] preferred = {2, 1, 0, 1, 2, 0};
+        for (int source : preferred) {
+            loop.prefer(source);
+            loop.turn();
+        }
+        check.log("each is of its source", loop, preferred);
     }
 }
