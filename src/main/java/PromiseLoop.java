@@ -1,6 +1,7 @@
 /**
  * Runs small functions by tasks of three sources, microtasks, timers, frames and promises, turn by
- * turn, on a clock that is set forward.
+ * turn, on a clock that is set forward; what fails is caught where something waits for it, or
+ * reported.
  *
  * <p>All rows are made with the object and used again, so that no call makes anything.
  */

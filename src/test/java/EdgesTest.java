@@ -5,7 +5,7 @@ import java.nio.file.Path;
 import java.util.regex.Matcher;
 import java.util.regex.Pattern;
 
-/** The table of the document's boundaries names tests that are there, at least one in each row. */
+/** The table of the document's sentences names tests that are there, at least one in each row. */
 public final class EdgesTest {
     private static final Path TABLE = Path.of("src/test/EDGES.md");
     private static final Pattern TEST = Pattern.compile("`(\\w+Test)\\.(\\w+)`");
